@@ -245,7 +245,7 @@ public final class IslandHall {
 
     public int told(int what) throws NoSuchElementException {
         needAnswer(what);
-        return realm.markAnswers(tale.fitting(), what);
+        return tale.markAnswers(what);
     }
 
     public int can(int what) throws NoSuchElementException {
@@ -1018,7 +1018,6 @@ public final class IslandHall {
         final long[][] rows;
         private final int[] packed;
         private final int[] rowOfKinds;
-        private final int[] seen;
         final int[] turn = new int[MOST_PEOPLE];
         private final long[] stack = new long[STACK];
         private final int[] tally = new int[KINDS];
@@ -1032,7 +1031,6 @@ public final class IslandHall {
             rows = new long[ROWS][(most + 63) >> 6];
             packed = new int[most];
             rowOfKinds = new int[most];
-            seen = new int[MOST_WORLDS];
         }
 
         /** All WORLDS of a Plan, ahead of its FACTS. */
@@ -1197,8 +1195,21 @@ public final class IslandHall {
 
         /** Where one could say now what is so there, or answer by the word whether it is. */
         long fits(int who, int word, long so, int j) {
-            long yes = word == NONE ? -1L : rows[WORD_ROWS + word][j];
-            return rows[KIND_ROWS + who * KINDS + FREE][j] | (yes ^ so ^ rows[HONEST_ROWS + 2 * who + turn[who]][j]);
+            return freeRow(who)[j] | (yesRow(word)[j] ^ so ^ honestRow(who)[j]);
+        }
+
+        long[] freeRow(int who) {
+            return rows[KIND_ROWS + who * KINDS + FREE];
+        }
+
+        /** Where one is HONEST at its next EVENT, if it isn't FREE. */
+        long[] honestRow(int who) {
+            return rows[HONEST_ROWS + 2 * who + turn[who]];
+        }
+
+        /** Where the WORD is yes; to say something is to say yes to it. */
+        long[] yesRow(int word) {
+            return rows[word == NONE ? FULL_ROW : WORD_ROWS + word];
         }
 
         void pass(int who) {
@@ -1242,23 +1253,6 @@ public final class IslandHall {
             }
             return bits;
         }
-
-        /** How many ANSWERS a row's WORLDS tell; they are marked. */
-        int markAnswers(long[] row, int what) {
-            Arrays.fill(seen, 0);
-            int number = 0;
-            for (int i = 0; i < size; i++) {
-                if (holds(row, i) && seen[answerAt(i, what)] == 0) {
-                    seen[answerAt(i, what)] = 1;
-                    number++;
-                }
-            }
-            return number;
-        }
-
-        boolean isMarked(int i, int what) {
-            return seen[answerAt(i, what)] == 1;
-        }
     }
 
     /** The EVENTS, and which WORLDS FIT each and all up to each. */
@@ -1267,6 +1261,7 @@ public final class IslandHall {
         private final int[] whose = new int[MOST_EVENTS];
         private final long[][] fit;
         private final long[][] left;
+        private final byte[] marks = new byte[MOST_WORLDS];
         int length = 0;
 
         Tale(Realm realm) {
@@ -1311,6 +1306,24 @@ public final class IslandHall {
                 Arrays.fill(realm.rows[TOLD_ROWS + length], 0L);
                 realm.pass(whose[length]);
             }
+        }
+
+        /** How many ANSWERS the WORLDS that FIT tell; they are marked. */
+        int markAnswers(int what) {
+            Arrays.fill(marks, (byte) 0);
+            int number = 0;
+            for (int i = 0; i < realm.size; i++) {
+                if (Realm.holds(left[length], i) && !isMarked(i, what)) {
+                    marks[realm.answerAt(i, what)] = 1;
+                    number++;
+                }
+            }
+            return number;
+        }
+
+        /** Whether a WORLD tells an ANSWER that was marked. */
+        boolean isMarked(int i, int what) {
+            return marks[realm.answerAt(i, what)] == 1;
         }
 
         /** NEEDLESS EVENTS, as bits. */
@@ -1371,10 +1384,10 @@ public final class IslandHall {
         /** ENOUGH for an ANSWER, as bits: what bars every WORLD of an ANSWER that is none. */
         int leastThatTells(Tale tale, int what) {
             Realm realm = tale.realm;
-            realm.markAnswers(tale.fitting(), what);
+            tale.markAnswers(what);
             clear(tale.length);
             for (int i = 0; i < realm.size; i++) {
-                if (Realm.holds(tale.keeping(), i) && !realm.isMarked(i, what)) {
+                if (Realm.holds(tale.keeping(), i) && !tale.isMarked(i, what)) {
                     fitted[tale.fitOf(i)] = 1;
                 }
             }
@@ -1512,8 +1525,19 @@ public final class IslandHall {
             return someOf(rest) == NONE;
         }
 
+        /** Whether a row has some WORLD and tells just one ANSWER. */
         boolean tellsOne(long[] row) {
-            return someOf(row) != NONE && tellsAtMost(row, 1);
+            int i = someOf(row);
+            if (i == NONE) {
+                return false;
+            }
+            long[] same = alike[likeWhom[i]];
+            for (int j = 0; j < realm.width; j++) {
+                if ((row[j] & ~same[j]) != 0L) {
+                    return false;
+                }
+            }
+            return true;
         }
 
         /** The first WORLD of a row, or NONE. */
@@ -1528,8 +1552,11 @@ public final class IslandHall {
 
         /** Those of a row in which one could now say what is so there, or answer by the word. */
         void narrow(long[] row, int who, int word, long[] so, long[] into) {
+            long[] free = realm.freeRow(who);
+            long[] honest = realm.honestRow(who);
+            long[] yes = realm.yesRow(word);
             for (int j = 0; j < realm.width; j++) {
-                into[j] = row[j] & realm.fits(who, word, so[j], j);
+                into[j] = row[j] & (free[j] | (yes[j] ^ so[j] ^ honest[j]));
             }
         }
     }
