@@ -699,9 +699,12 @@ public final class IslandHall {
             begin(n, facts);
             draft.reset();
             facts.startFacts();
-            if (islandText() && draft.size() > MOST_WORLDS) {
+            boolean read = head();
+            for (int i = 0; i < MOST_BYTES && read && tokens.type != Tokens.END; i++) {
+                read = clause() && takeSign(';');
+            }
+            if (read && draft.size() > MOST_WORLDS) {
                 fail(WORLDS);
-                place = n;
             }
             return found;
         }
@@ -729,21 +732,13 @@ public final class IslandHall {
             return false;
         }
 
-        private boolean islandText() {
+        private boolean head() {
             if (!takeWord("people")) {
                 return fail(UNFIT);
             }
             people = number(0, MOST_PEOPLE);
-            if (people == NONE || !takeSign(';')) {
-                return false;
-            }
             draft.people = people;
-            for (int i = 0; i < MOST_BYTES && tokens.type != Tokens.END; i++) {
-                if (!clause() || !takeSign(';')) {
-                    return false;
-                }
-            }
-            return true;
+            return people != NONE && takeSign(';');
         }
 
         private boolean clause() {
@@ -754,7 +749,7 @@ public final class IslandHall {
                 return liesClause();
             }
             if (takeWord("fact")) {
-                return factClause();
+                return expr(0) && step(STEP_AND, 0);
             }
             if (takeWord("words")) {
                 draft.words = true;
@@ -803,14 +798,6 @@ public final class IslandHall {
             return true;
         }
 
-        private boolean factClause() {
-            if (!expr(0)) {
-                return false;
-            }
-            code.add(STEP_AND, 0);
-            return true;
-        }
-
         private boolean expr(int within) {
             if (!canBegin()) {
                 return fail(UNFIT);
@@ -822,10 +809,9 @@ public final class IslandHall {
                 return false;
             }
             for (int i = 0; i < MOST_BYTES && takeWord("or"); i++) {
-                if (!conjunction(within)) {
+                if (!conjunction(within) || !step(STEP_OR, 0)) {
                     return false;
                 }
-                code.add(STEP_OR, 0);
             }
             return true;
         }
@@ -840,10 +826,9 @@ public final class IslandHall {
                 return false;
             }
             for (int i = 0; i < MOST_BYTES && takeWord("and"); i++) {
-                if (!negation(within)) {
+                if (!negation(within) || !step(STEP_AND, 0)) {
                     return false;
                 }
-                code.add(STEP_AND, 0);
             }
             return true;
         }
@@ -857,10 +842,7 @@ public final class IslandHall {
                 return fail(TOO_MUCH);
             }
             boolean read = tokens.isSign('(') ? parenthesis(within) : atom(within);
-            if (read && (nots & 1) == 1) {
-                code.add(STEP_NOT, 0);
-            }
-            return read;
+            return read && ((nots & 1) == 0 || step(STEP_NOT, 0));
         }
 
         private boolean parenthesis(int within) {
@@ -887,11 +869,7 @@ public final class IslandHall {
         }
 
         private boolean row(int rows, int number) {
-            if (number == NONE) {
-                return false;
-            }
-            code.add(STEP_ROW, rows + number);
-            return true;
+            return number != NONE && step(STEP_ROW, rows + number);
         }
 
         private boolean toldAtom() {
@@ -920,8 +898,7 @@ public final class IslandHall {
             }
             int below = Math.min(number, MOST_PEOPLE + 1);
             int counts = order < 0 ? (1 << below) - 1 : order > 0 ? -1 << (below + 1) : 1 << below;
-            code.add(STEP_MANY, (kind << 8) | (counts & 0xff));
-            return true;
+            return step(STEP_MANY, (kind << 8) | (counts & 0xff));
         }
 
         private boolean aboutSomeone(int within) {
@@ -930,10 +907,11 @@ public final class IslandHall {
                 return false;
             }
             if (takeWord("is")) {
-                return kindHere() && kindAtom(who);
+                return kindAtom(who);
             }
             if (takeWord("as")) {
-                return likeAtom(who, name());
+                int other = name();
+                return other != NONE && step(STEP_AS, (who << 3) | other);
             }
             if (!takeWord("says")) {
                 return fail(UNFIT);
@@ -946,17 +924,12 @@ public final class IslandHall {
         }
 
         private boolean kindAtom(int who) {
-            code.add(STEP_ROW, KIND_ROWS + who * KINDS + tokens.kind());
-            tokens.next();
-            return true;
-        }
-
-        private boolean likeAtom(int who, int other) {
-            if (other == NONE) {
+            if (!kindHere()) {
                 return false;
             }
-            code.add(STEP_AS, (who << 3) | other);
-            return true;
+            int kind = tokens.kind();
+            tokens.next();
+            return step(STEP_ROW, KIND_ROWS + who * KINDS + kind);
         }
 
         private int name() {
@@ -992,6 +965,11 @@ public final class IslandHall {
             }
             tokens.next();
             return value;
+        }
+
+        private boolean step(int sign, int about) {
+            code.add(sign, about);
+            return true;
         }
 
         private boolean takeWord(String word) {
@@ -1659,7 +1637,22 @@ public final class IslandHall {
             for (int s = 0; s < number; s++) {
                 crowd.realm.judge(codes[s], plain[s]);
             }
-            return tellsAlone() || tellsAsPair() ? length : NONE;
+            if (tellsAlone()) {
+                return length;
+            }
+            for (int p = 0; p < crowd.realm.people; p++) {
+                for (int s = 0; s < number; s++) {
+                    crowd.narrow(crowd.everyone(), p, NONE, plain[s], one);
+                    int second = crowd.someOf(one) == NONE ? NONE : secondBehind(p, s);
+                    if (second != NONE) {
+                        lines[0] = MOST_SENTENCES * p + s;
+                        lines[1] = second;
+                        length = 2;
+                        return length;
+                    }
+                }
+            }
+            return NONE;
         }
 
         private boolean tellsAlone() {
@@ -1669,22 +1662,6 @@ public final class IslandHall {
                     if (crowd.tellsOne(one)) {
                         lines[0] = MOST_SENTENCES * p + s;
                         length = 1;
-                        return true;
-                    }
-                }
-            }
-            return false;
-        }
-
-        private boolean tellsAsPair() {
-            for (int p = 0; p < crowd.realm.people; p++) {
-                for (int s = 0; s < number; s++) {
-                    crowd.narrow(crowd.everyone(), p, NONE, plain[s], one);
-                    int second = crowd.someOf(one) == NONE ? NONE : secondBehind(p, s);
-                    if (second != NONE) {
-                        lines[0] = MOST_SENTENCES * p + s;
-                        lines[1] = second;
-                        length = 2;
                         return true;
                     }
                 }

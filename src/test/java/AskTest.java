@@ -260,6 +260,12 @@ public final class AskTest {
         z.back();
         CHECK.due("b alone", () -> z.riddle(1), 1);
         CHECK.due("b says the road", () -> z.line(0), 31);
+        // the other way round they would tell the road
+        IslandHall alone = Check.hall("people 1;may a honest;roads 4;", "told 0 and road 0;", "road 0 or road 1;");
+        CHECK.due("not above the second's sentence", () -> alone.riddle(1), -1);
+        IslandHall pair = Check.hall("people 2;may a liar;may b honest;roads 4;", "not (told 0 and road 0);",
+                "road 0 or road 1;");
+        CHECK.due("not above the second's person", () -> pair.riddle(1), -1);
         IslandHall twice = Check.hall("people 1;may a turner;roads 2;", "road 0 and told 0 or not road 0 and not told 0;");
         // honest at first: road 1, and told 0 was so, so a lie then; a liar at first: road 0, and no truth then
         CHECK.due("a turner says it twice", () -> twice.riddle(1), 2);
