@@ -768,11 +768,12 @@ public final class IslandHall {
 
         private boolean mayClause() {
             int who = name();
-            if (who == NONE || !kindHere()) {
+            int earliest = who == NONE ? NONE : takeKind();
+            if (earliest == NONE) {
                 return false;
             }
-            int told = 0;
-            for (int i = 0; i <= KINDS && tokens.kind() != NONE; i++) {
+            int told = 1 << earliest;
+            for (int i = 0; i < KINDS && tokens.kind() != NONE; i++) {
                 int bit = 1 << tokens.kind();
                 if ((told & bit) != 0) {
                     return fail(TWICE);
@@ -865,7 +866,7 @@ public final class IslandHall {
             if (takeWord("told")) {
                 return toldAtom();
             }
-            return takeWord("many") ? manyAtom() : fail(UNFIT);
+            return takeWord("many") ? manyAtom(takeKind()) : fail(UNFIT);
         }
 
         private boolean row(int rows, int number) {
@@ -881,12 +882,10 @@ public final class IslandHall {
             return true;
         }
 
-        private boolean manyAtom() {
-            if (!kindHere()) {
+        private boolean manyAtom(int kind) {
+            if (kind == NONE) {
                 return false;
             }
-            int kind = tokens.kind();
-            tokens.next();
             int order = tokens.isSign('<') ? -1 : tokens.isSign('>') ? 1 : 0;
             if (order == 0 && !tokens.isSign('=')) {
                 return fail(UNFIT);
@@ -907,7 +906,7 @@ public final class IslandHall {
                 return false;
             }
             if (takeWord("is")) {
-                return kindAtom(who);
+                return row(KIND_ROWS + who * KINDS, takeKind());
             }
             if (takeWord("as")) {
                 int other = name();
@@ -921,15 +920,6 @@ public final class IslandHall {
             }
             code.addSays(who);
             return true;
-        }
-
-        private boolean kindAtom(int who) {
-            if (!kindHere()) {
-                return false;
-            }
-            int kind = tokens.kind();
-            tokens.next();
-            return step(STEP_ROW, KIND_ROWS + who * KINDS + kind);
         }
 
         private int name() {
@@ -946,11 +936,14 @@ public final class IslandHall {
             return who;
         }
 
-        private boolean kindHere() {
-            if (tokens.type != Tokens.A_WORD) {
-                return fail(UNFIT);
+        private int takeKind() {
+            int kind = tokens.kind();
+            if (kind == NONE) {
+                fail(tokens.type == Tokens.A_WORD ? NO_KIND : UNFIT);
+                return NONE;
             }
-            return tokens.kind() != NONE || fail(NO_KIND);
+            tokens.next();
+            return kind;
         }
 
         private int number(int least, int most) {

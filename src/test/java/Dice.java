@@ -23,6 +23,12 @@ final class Dice {
         return list.get(below(list.size()));
     }
 
+    /** A number at the edge of something. */
+    int edge() {
+        return one(List.of(Integer.MIN_VALUE, Integer.MIN_VALUE + 1, -9, -2, -1, 0, 3, 4, 6, 7, 8, 10, 12, 14, 15, 16, 18, 19, 29,
+                30, 31, 63, 64, 500, 3000, Integer.MAX_VALUE - 1, Integer.MAX_VALUE));
+    }
+
     String kind() {
         return one(Oracle.KINDS);
     }
@@ -92,7 +98,8 @@ final class Dice {
     private static final List<String> TOKENS = List.of("people", "may", "roads", "day", "lies", "words", "fact", "honest",
             "liar", "turner", "dayer", "free", "or", "and", "not", "is", "as", "says", "road", "many", "word", "told",
             "a", "b", "g", "z", "ab", "foo", "0", "1", "4", "7", "8", "99", "100", "0007", "007", ";", "(", ")", "<", "=", ">",
-            "-", "A", "\t", "\n", "((((((", "not not not", "not not not not not not", "a says(b says(a says(b says(", "\u00e9", "", " ");
+            "-", "A", "\t", "\n", "((((((", "not not not", "not not not not not not", "a says(b says(a says(b says(",
+            "\u00e9", "", " ");
 
     /** A text with a token put in, taken out or put in another's place, or cut off. */
     String spoilt(String text) {

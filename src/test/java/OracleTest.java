@@ -27,7 +27,7 @@ public final class OracleTest {
     }
 
     private int lengthOf(String text) {
-        return dice.once(60) ? dice.below(520) - 10 : text.length();
+        return dice.once(60) ? dice.once(2) ? dice.edge() : dice.below(520) - 10 : text.length();
     }
 
     private boolean island() {
@@ -50,17 +50,17 @@ public final class OracleTest {
     }
 
     private int who() {
-        return dice.once(40) ? dice.below(10) - 2 : dice.below(Math.max(1, oracle.people));
+        return dice.once(40) ? dice.edge() : dice.below(Math.max(1, oracle.people));
     }
 
     private int which() {
-        return dice.once(40) ? dice.below(40) - 3 : dice.below(Math.max(1, oracle.count(2)));
+        return dice.once(40) ? dice.edge() : dice.below(Math.max(1, oracle.count(2)));
     }
 
     private void event() {
         int w = who();
         int s = which();
-        int word = dice.once(30) ? dice.below(5) - 2 : dice.below(2);
+        int word = dice.once(30) ? dice.edge() : dice.below(2);
         if (dice.once(2)) {
             same("says " + w + " " + s, () -> hall.says(w, s), () -> oracle.says(w, s));
         } else {
@@ -79,17 +79,17 @@ public final class OracleTest {
     }
 
     private int what() {
-        return dice.once(25) ? dice.below(9) - 3 : dice.below(4);
+        return dice.once(25) ? dice.edge() : dice.below(4);
     }
 
     private void look() {
         int what = what();
-        int i = dice.below(dice.once(3) ? 60 : 6) - 1;
+        int i = dice.once(20) ? dice.edge() : dice.below(dice.once(3) ? 60 : 6) - 1;
         int who = dice.once(3) ? -1 : who();
         int s = which();
         switch (dice.below(13)) {
             case 0:
-                int c = dice.below(10) - 1;
+                int c = dice.once(20) ? dice.edge() : dice.below(10) - 1;
                 same("count " + c, () -> hall.count(c), () -> oracle.count(c));
                 break;
             case 1:
@@ -99,7 +99,7 @@ public final class OracleTest {
                 same("worlds " + what, () -> hall.worlds(what % 3), () -> oracle.worlds(what % 3));
                 break;
             case 3:
-                int part = dice.below(21) - 1;
+                int part = dice.once(20) ? dice.edge() : dice.below(21) - 1;
                 same("world " + i + " " + part, () -> hall.world(i, part), () -> oracle.world(i, part));
                 break;
             case 4:
@@ -144,9 +144,9 @@ public final class OracleTest {
     }
 
     private void hidden() {
-        int i = dice.below(dice.once(3) ? 200 : 8) - 1;
+        int i = dice.once(20) ? dice.edge() : dice.below(dice.once(3) ? 200 : 8) - 1;
         int seed = dice.below(1 << 30) * 4 + dice.below(4);
-        int q = dice.once(20) ? dice.below(14) - 2 : dice.below(Math.max(1, oracle.count(4)));
+        int q = dice.once(20) ? dice.edge() : dice.below(Math.max(1, oracle.count(4)));
         if (dice.once(4)) {
             same("hide " + i, () -> hall.hide(i, seed) ? 1 : 0, () -> oracle.hide(i, seed) ? 1 : 0);
         } else {
