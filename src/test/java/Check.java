@@ -74,6 +74,39 @@ final class Check {
         }
     }
 
+    /** All that can be looked at without a change, but for the tape and the latest fault. */
+    static String sight(IslandHall hall) {
+        StringBuilder s = new StringBuilder();
+        for (int what : new int[] {0, 1, 2, 3, 4, 6, 7}) {
+            s.append(hall.count(what)).append(' ');
+        }
+        for (int who = 0; who < hall.count(0); who++) {
+            s.append(hall.may(who, 0)).append(' ').append(hall.may(who, 1)).append(' ');
+        }
+        s.append(hall.worlds(0)).append(' ').append(hall.worlds(1)).append(' ');
+        for (int what = 1; what < 4; what++) {
+            s.append(hall.can(what)).append(' ');
+        }
+        for (int i = 0; i < hall.count(2); i++) {
+            s.append(hall.could(IslandHall.NONE, i)).append(' ');
+            for (int who = 0; who < hall.count(0); who++) {
+                s.append(hall.could(who, i)).append(' ');
+            }
+        }
+        s.append(hall.needless()).append(' ').append(hall.knots()).append(' ').append(hall.first()).append(' ');
+        return s.append(outcome(() -> hall.line(0))).append(' ').append(outcome(() -> hall.line(1))).toString();
+    }
+
+    /** Nothing that can be looked at is another than it was before. */
+    void same(String what, IslandHall hall, String before) {
+        looked++;
+        String now = sight(hall);
+        if (!now.equals(before)) {
+            wrong++;
+            System.out.println(what + " changed " + before + " to " + now);
+        }
+    }
+
     static int island(IslandHall hall, String text) {
         feed(hall, text);
         return hall.island(text.length());
