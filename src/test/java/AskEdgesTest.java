@@ -19,6 +19,7 @@ public final class AskEdgesTest {
         seedOfFreeOnesAlone();
         replyIsAnEvent();
         oneOrTwoSayings();
+        sayingsOfSentencesThereAre();
         fewestSayingsGoFirst();
         someWorldIsLeft();
         toldBehindAllEvents();
@@ -333,6 +334,26 @@ public final class AskEdgesTest {
         CHECK.due("nobody", () -> nobody.riddle(1), -1);
     }
 
+    /** SENTENCES and QUESTIONS that are gone, or had a FAULT, are neither told nor asked. */
+    private static void sayingsOfSentencesThereAre() {
+        String island = "people 2;may a honest;may b honest;roads 2;";
+        IslandHall x = Check.hall(island, "road 3 or road 0 or road 1;", "road 0;");
+        x.question(0, 1);
+        x.question(0, 0);
+        CHECK.due("a riddle", () -> x.riddle(1), 1);
+        CHECK.due("a question", () -> x.fewest(1), 1);
+        Check.island(x, island);
+        CHECK.due("no sentence", () -> x.riddle(1), -1);
+        CHECK.due("no question", () -> x.fewest(1), -1);
+        Check.sentence(x, "road 0 or road 1;");
+        CHECK.due("a shorter one is so where it is so", () -> x.could(-1, 0), 2);
+        CHECK.due("the other is gone", () -> x.riddle(1), -1);
+        CHECK.due("one with a fault", () -> Check.sentence(x, "road 0 foo;"), -2);
+        CHECK.due("can't be said", () -> x.riddle(1), -1);
+        x.question(0, 0);
+        CHECK.due("nor be asked", () -> x.fewest(1), -1);
+    }
+
     /** "fewest SAYINGS" ahead of "the first". */
     private static void fewestSayingsGoFirst() {
         IslandHall x = Check.hall("people 2;may a honest;may b honest;roads 3;", "not road 0;", "not road 1;", "road 2;");
@@ -391,6 +412,9 @@ public final class AskEdgesTest {
         CHECK.due("two", () -> x.riddle(1), 2);
         CHECK.due("a's", () -> x.line(0), 0);
         CHECK.due("b's, by a's next turn", () -> x.line(1), 31);
+        IslandHall both = Check.hall(turner, "not road 0;", "a says (not road 3) and b says (not told 0 or not told 5);");
+        CHECK.due("two, where b is told of, too", () -> both.riddle(1), 2);
+        CHECK.due("b's, by a's next turn still", () -> both.line(1), 31);
         IslandHall y = Check.hall("people 1;may a turner;roads 4;fact a says (not told 0);", "not road 3;", "road 0 or road 1;");
         CHECK.due("two of a turner", () -> y.riddle(1), 2);
         CHECK.due("the truth", () -> y.line(0), 0);
@@ -432,6 +456,8 @@ public final class AskEdgesTest {
         CHECK.due("0 and 1 tell", () -> below.riddle(1), 2);
         CHECK.due("0", () -> below.line(0), 0);
         CHECK.due("1", () -> below.line(1), 1);
+        IslandHall later = Check.hall("people 1;may a honest;roads 3;", "road 0 or road 1;", "told 0 and road 0 and not told 5;");
+        CHECK.due("0 and 1 tell, where another is told of, too", () -> later.riddle(1), 2);
         IslandHall same = Check.hall("people 1;may a honest;roads 3;", "told 0 and road 0 or not told 0 and not road 2;");
         CHECK.due("one and the same twice", () -> same.riddle(1), 2);
         CHECK.due("is not above itself", () -> same.line(1), same.line(0));

@@ -44,6 +44,7 @@ public final class EventEdgesTest {
         backToNone();
         backTakesAllOfIt();
         worldsOfWhat();
+        worldsInTheirOrder();
         worldOfWhich();
         worldOfWhat();
         worldOfTurnersAtFirst();
@@ -720,6 +721,33 @@ public final class EventEdgesTest {
         for (int what : FAR) {
             CHECK.throwsNoSuch("worlds " + what, () -> x.worlds(what));
         }
+    }
+
+    /** "WORLDS are ordered as rows: PEOPLE from 0 on by KIND (..), ROAD, DAY, WORD." */
+    private static void worldsInTheirOrder() {
+        IslandHall x = Check.hall("people 2;may a turner free;may b liar turner;roads 2;lies 1;words;fact not day 2;");
+        int[][] aCodes = {{2, 0}, {2, 1}, {4, 0}};
+        int[][] bCodes = {{1, 0}, {2, 0}, {2, 1}};
+        int i = 0;
+        for (int[] a : aCodes) {
+            for (int[] b : bCodes) {
+                for (int rest = 0; rest < 2 * 7 * 2; rest++) {
+                    int day = rest / 2 % 7;
+                    if (day == 2) {
+                        continue;
+                    }
+                    int[] due = {a[0], b[0], a[1], b[1], rest / 14, day, rest % 2};
+                    int[] what = {0, 1, 8, 9, 16, 17, 18};
+                    int at = i;
+                    for (int k = 0; k < 7; k++) {
+                        int w = what[k];
+                        CHECK.due("world " + at + " " + w, () -> x.world(at, w), due[k]);
+                    }
+                    i++;
+                }
+            }
+        }
+        CHECK.due("all of them", () -> x.worlds(1), i);
     }
 
     /** world: "Of the i-th WORLD that FITS", "there is none". */

@@ -427,14 +427,14 @@ public final class TextEdgesTest {
         CHECK.due("nor of those that keep facts", () -> x.worlds(0), 1);
     }
 
-    private static final String SEVEN_SMOOTH = "people 4;may a" + ALL_KINDS + "may b" + ALL_KINDS + "may c" + ALL_KINDS;
+    private static final String THREE_THOUSAND = "people 5;may a turner dayer free liar;may b turner honest dayer free;"
+            + "may c turner dayer free liar;may d honest liar dayer;may e liar honest;roads 4;";
+    private static final String MANY_KINDS = "people 4;may a" + ALL_KINDS + "may b" + ALL_KINDS + "may c" + ALL_KINDS;
 
     /** "At most 3000 WORLDS", "6 (at the text's length) more than 3000 WORLDS": 3000, and 3024, the next that can be. */
     private static void threeThousandWorlds() {
-        String text = "people 5;may a turner dayer free liar;may b turner honest dayer free;may c turner dayer free liar;"
-                + "may d honest liar dayer;may e liar honest;roads 4;";
-        worlds(text, 3000);
-        IslandHall x = Check.hall(text);
+        worlds(THREE_THOUSAND, 3000);
+        IslandHall x = Check.hall(THREE_THOUSAND);
         CHECK.due("the last", () -> x.world(2999, 16), 3);
         CHECK.throwsNoSuch("none behind it", () -> x.world(3000, 16));
         Check.sentence(x, "road 3;");
@@ -446,7 +446,7 @@ public final class TextEdgesTest {
         CHECK.due("rows of kinds", () -> x.told(0), 4 * 4 * 4 * 3 * 2);
         CHECK.due("it is needed", x::needless, 0);
         CHECK.due("no knot", x::knots, 0);
-        String more = SEVEN_SMOOTH + "may d free;lies 1;words;";
+        String more = MANY_KINDS + "may d free;lies 1;words;";
         island(more, 6, more.length());
         island(more + " \n", 6, more.length() + 2);
         // the last clause of each kind counts, so none of these has too many at last
@@ -463,7 +463,7 @@ public final class TextEdgesTest {
 
     /** "At most 3000 WORLDS, ahead of FACTS." */
     private static void worldsAreCountedAheadOfFacts() {
-        String text = SEVEN_SMOOTH + "may d free;lies 1;words;fact day 1;";
+        String text = MANY_KINDS + "may d free;lies 1;words;fact day 1;";
         island(text, 6, text.length());
     }
 
@@ -949,6 +949,23 @@ public final class TextEdgesTest {
         Check.sentence(y, "a is honest;");
         CHECK.due("is not honest, though one was", () -> y.could(-1, 0), 0);
         CHECK.due("only a liar", () -> y.may(0, 1), 2);
+        // a small one behind the greatest
+        IslandHall z = Check.hall(THREE_THOUSAND, "road 0 or road 1 or road 2 or road 3;");
+        z.says(0, 0);
+        z.says(4, 0);
+        CHECK.due("64 worlds", () -> Check.island(z, "people 6;"), 0);
+        Check.sentence(z, "not road 0;");
+        Check.sentence(z, "a is honest;");
+        CHECK.due("that fit", () -> z.worlds(1), 64);
+        CHECK.due("rows of kinds", () -> z.told(0), 64);
+        CHECK.throwsNoSuch("no 65th", () -> z.world(64, 0));
+        CHECK.due("anyone may say that it is honest", () -> z.says(0, 1), 0);
+        CHECK.due("which is needless", z::needless, 1);
+        CHECK.due("and nobody needs it", () -> z.enough(0), 0);
+        CHECK.due("no knot", z::knots, 0);
+        CHECK.due("the road is known", () -> z.fewest(1), 0);
+        CHECK.due("by what a can say", () -> z.riddle(1), 1);
+        CHECK.due("a liar", () -> z.could(0, 0), 32);
     }
 
     /** "IllegalArgumentException: the tape has not so many, n below 0". */
