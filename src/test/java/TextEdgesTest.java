@@ -439,6 +439,9 @@ public final class TextEdgesTest {
         CHECK.throwsNoSuch("none behind it", () -> x.world(3000, 16));
         Check.sentence(x, "road 3;");
         CHECK.due("in how many that is so", () -> x.could(-1, 0), 750);
+        CHECK.due("e could say it", () -> x.could(4, 0), 1500);
+        CHECK.due("the kinds of e", () -> x.may(4, 1), 3);
+        CHECK.due("the roads", () -> x.can(1), 15);
         CHECK.due("e, who is honest or a liar, says it", () -> x.says(4, 0), 0);
         CHECK.due("a quarter as honest, the rest as liars", () -> x.worlds(1), 375 + 1125);
         CHECK.due("the last is a liar's", () -> x.world(1499, 4), 1);
@@ -966,6 +969,18 @@ public final class TextEdgesTest {
         CHECK.due("the road is known", () -> z.fewest(1), 0);
         CHECK.due("by what a can say", () -> z.riddle(1), 1);
         CHECK.due("a liar", () -> z.could(0, 0), 32);
+        IslandHall w = Check.hall("people 2;may a free;roads 4;lies 0;words;", "road 0;");
+        CHECK.due("64 worlds behind 112", () -> Check.island(w, "people 6;"), 0);
+        Check.sentence(w, "a is honest;");
+        w.says(0, 0);
+        CHECK.due("day 0 needs no event", () -> w.enough(2), 0);
+        IslandHall v = Check.hall("people 2;may a free;roads 4;lies 0;words;", "road 0;");
+        v.says(0, 0);
+        CHECK.due("64 worlds behind 112 that fit an event", () -> Check.island(v, "people 6;"), 0);
+        Check.sentence(v, "a is liar;");
+        v.says(0, 0);
+        CHECK.due("an event that none fits", v::knots, 1);
+        CHECK.due("is a knot", () -> v.knot(0), 1);
     }
 
     /** "IllegalArgumentException: the tape has not so many, n below 0". */
